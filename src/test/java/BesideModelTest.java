@@ -114,7 +114,7 @@ public final class BesideModelTest {
     }
 
     private void hands() {
-        int t = about(7), h = about(9);
+        int t = r(3) == 0 ? about(7) : r(towns), h = r(3) == 0 ? about(9) : r(3);
         due("hands(" + t + ", " + h + ")", room.hands(t, h), model.hands(t, h));
     }
 

@@ -54,6 +54,7 @@ public final class PromisesTest {
         ways();
         go();
         holding();
+        handsTaken();
         rings();
         wrong();
         feedBytes();
@@ -452,14 +453,21 @@ public final class PromisesTest {
             due("told(1, " + what + ") later", x.told(1, what), late[what]);
             due("told(2, " + what + ") later", x.told(2, what), talks[what]);
         }
+        // only those of the same two TOWNS are waited for
+        x.book(3, 5, 5, 0, 0);
+        x.book(5, 4, 5, 0, 0);
+        x.book(5, 3, 5, 0, 0);
+        due("told(3, 10)", x.told(3, 10), 0);
+        due("told(4, 10)", x.told(4, 10), 0);
+        due("told(5, 10)", x.told(5, 10), 6);
         // told by the ORDER of the MINUTE of booking
         order(x, 9, "told 99;");
         x.book(0, 1, 5, 0, 0);
         x.book(1, 0, 5, 0, 0);
-        due("told(4, 10)", x.told(4, 10), 6);
+        due("told(7, 10)", x.told(7, 10), 6);
         x.go(1);
         x.book(0, 1, 5, 0, 0);
-        due("told(5, 10)", x.told(5, 10), 198);
+        due("told(8, 10)", x.told(8, 10), 198);
     }
 
     private static void charges() {
@@ -513,6 +521,25 @@ public final class PromisesTest {
         y.go(2);
         due("told(0, 7)", y.told(0, 7), 5);
         due("told(0, 12)", y.told(0, 12), 10);
+        // by the ORDERS of the MINUTE in which it began
+        TrunkRoom z = new TrunkRoom();
+        z.wire(0, 1, 10);
+        z.span(0, 0, 20, 20);
+        order(z, 0, "charge 3 to 900;back 0;");
+        order(z, 5, "charge 7 to 900;back 100;");
+        z.go(4);
+        z.book(0, 1, 5, 0, 0);
+        z.book(0, 1, 5, 0, 0);
+        z.go(11);
+        due("told(0, 12)", z.told(0, 12), 6);
+        due("told(1, 12)", z.told(1, 12), 14);
+        z.book(0, 1, 9, 0, 0);
+        order(z, 14, "back 40;strike 0;");
+        order(z, 3, "charge 8 to 40;");
+        z.go(6);
+        // of 8 and 7 that with the fewer MILES counts, for what is past too: 2 of 8 less 40 in a hundred (6)
+        due("told(2, 12)", z.told(2, 12), 16 - 6);
+        due("told(0, 12)", z.told(0, 12), 16);
         // three minutes are one three, a fourth begins the next
         y.book(0, 1, 3, 0, 0);
         y.go(3);
@@ -726,6 +753,42 @@ public final class PromisesTest {
         due("told(0, 6)", z.told(0, 6), 0);
         z.go(1);
         due("told(0, 7)", z.told(0, 7), 2);
+    }
+
+    private static void handsTaken() {
+        promise = 13;
+        TrunkRoom x = new TrunkRoom();
+        x.wire(0, 1, 10);
+        x.wire(1, 2, 10);
+        x.wire(0, 4, 10);
+        order(x, 0, "hold 9;");
+        x.hands(0, 1);
+        x.book(1, 2, 3, 0, 0);
+        x.go(1);
+        x.book(0, 2, 9, 0, 0);
+        x.go(2);
+        x.book(0, 5, 9, 1, 0);
+        x.book(0, 4, 9, 0, 0);
+        // minute 3: 0 to 5 has no WAY and takes no HAND, the HELD one takes it with its next WIRE
+        due("go(1)", x.go(1), 1);
+        due("told(1, 7)", x.told(1, 7), 3);
+        due("told(3, 6)", x.told(3, 6), 0);
+        due("go(1)", x.go(1), 1);
+        due("told(3, 7)", x.told(3, 7), 4);
+        // hold 1: HELD in 1, put back in 2, HELD in 3; with hold 0 from 4 on it is put back and not HELD
+        TrunkRoom y = new TrunkRoom();
+        y.wire(0, 1, 10);
+        y.wire(1, 2, 10);
+        order(y, 0, "hold 1;");
+        order(y, 4, "hold 0;");
+        y.book(1, 2, 9, 0, 0);
+        y.go(1);
+        y.book(0, 2, 9, 0, 0);
+        int[] states = {1, 0, 1, 0, 0, 0};
+        for (int state : states) {
+            y.go(1);
+            due("told(1, 6) in " + (y.count(0) - 1), y.told(1, 6), state);
+        }
     }
 
     private static TrunkRoom ring() {
