@@ -1,18 +1,25 @@
-import java.util.ArrayList;
-import java.util.List;
+import java.util.Arrays;
 import java.util.Random;
 
-/** Any arguments in any state: nothing is thrown, and what is refused changes nothing. */
+/**
+ * Any arguments in any state: nothing is thrown, and what is refused changes nothing: an object that gets all
+ * calls and one that gets those alone that were not refused answer alike.
+ */
 public final class HardArgumentsTest {
     private static final int[] HARD = {Integer.MIN_VALUE, Integer.MIN_VALUE + 1, -100004, -100001, -2, -1, 0, 1, 2, 3, 4,
         5, 7, 8, 9, 10, 15, 16, 30, 31, 32, 40, 60, 61, 63, 64, 160, 200, 300, 301, 479, 480, 920, 1000, 9999, 99999,
         1 << 16, 1 << 30, Integer.MAX_VALUE - 1, Integer.MAX_VALUE};
     private static final int METHODS = 24;
-    // their answers may be as a refusal is, or they change nothing in any case
-    private static final int CLOCKS = 18;
+    // those that change nothing
+    private static final int[] ASKING = {3, 3, 4, 8, 8, 8, 9, 10, 12, 15, 16, 18, 20, 21, 23};
+    // no object gets more than the document's 512
+    private static final int CALLS = 320, QUESTIONS = 512 - CALLS;
 
     private final Random random;
     private final TrunkRoom x = new TrunkRoom();
+    private final TrunkRoom y = new TrunkRoom();
+    private int[] a = new int[5];
+    private long bytes = 0;
     private String call = "";
 
     private HardArgumentsTest(int seed) {
@@ -21,7 +28,7 @@ public final class HardArgumentsTest {
 
     public static void main(String[] args) {
         int wrong = 0;
-        for (int seed = 0; seed < 60; seed++) {
+        for (int seed = 0; seed < 1000; seed++) {
             HardArgumentsTest t = new HardArgumentsTest(seed);
             try {
                 wrong += t.run() ? 0 : 1;
@@ -37,13 +44,21 @@ public final class HardArgumentsTest {
     }
 
     private boolean run() {
-        for (int i = 0; i < 512; i++) {
-            List<Integer> before = snapshot();
+        for (int i = 0; i < CALLS; i++) {
             int method = random.nextInt(METHODS);
-            int answer = step(method, random.nextInt(3));
-            boolean refused = answer <= -100001 && answer >= -100004 && method != CLOCKS;
-            if (refused && !snapshot().equals(before)) {
-                System.out.println(call + " was refused and changed something");
+            choose(method, random.nextInt(3));
+            int answer = on(x, method);
+            boolean refused = answer <= -100001 && answer >= -100004;
+            if (!refused && on(y, method) != answer) {
+                System.out.println(call + ": something that was refused before changed something");
+                return false;
+            }
+        }
+        for (int i = 0; i < QUESTIONS; i++) {
+            int method = ASKING[random.nextInt(ASKING.length)];
+            choose(method, 0);
+            if (on(x, method) != on(y, method)) {
+                System.out.println(call + ": something that was refused changed something");
                 return false;
             }
         }
@@ -56,73 +71,74 @@ public final class HardArgumentsTest {
         return hard ? HARD[random.nextInt(HARD.length)] : least + random.nextInt(most - least + 1);
     }
 
-    private int step(int method, int h) {
-        int a = n(h, 0, 3), b = n(h, 0, 3), c = n(h, 0, 39), m = n(h, 1, 300), t = n(h, 0, 479), s = n(h, 0, 15);
-        int small = n(h, -1, 14), k = n(h, 0, 2), w = n(h, 0, 15), len = n(h, 1, 60);
-        call = "method " + method + " with " + List.of(a, b, c, m, t, s, small, k, w, len);
+    /** Arguments for a method, the first ones of those that are called. */
+    private void choose(int method, int h) {
+        int t = n(h, 0, 479), len = n(h, 1, 60), mile = n(h, 1, 300);
+        int town = n(h, 0, 3), other = n(h, 0, 3), wire = n(h, 0, 15), c = n(h, 0, 20), few = n(h, -1, 14);
         switch (method) {
-            case 0: return x.wire(a, b, m);
-            case 1: return x.span(w, k, t, n(h, t & 255, 479));
-            case 2: return x.hands(a, small);
-            case 3: return x.about(w, small);
-            case 4: return x.count(small);
-            case 5: return x.book(a, b, len, k, t);
-            case 6: return x.cancel(c);
-            case 7: return x.again(c);
-            case 8: return x.told(c, small);
-            case 9: return x.way(c, small);
-            case 10: return x.ways(a, b, n(h, 1, 3), n(h, 0, 20), small);
-            case 11: return x.go(n(h, 0, 5));
-            case 12: return x.wrong(k);
-            case 13: return feed(h);
-            case 14: return x.order(t);
-            case 15: return x.fault();
-            case 16: return x.force(t, n(h, 0, 1000));
-            case 17: return x.ticket(a, b, m, n(h, 0, 9999));
-            case CLOCKS: return x.clocks(a, b, k);
-            case 19: return x.need(small, n(h, 0, 9));
-            case 20: return x.shifts(small);
-            case 21: return x.beside(s, s, n(h, 0, 4));
-            case 22: return x.offer(a, b, m, m);
-            default: return x.plan(m, k);
+            case 0: set(town, other, mile); break;
+            case 1: set(wire, n(h, 0, 2), t, n(h, t & 255, 479)); break;
+            case 2: set(town, n(h, 0, 9)); break;
+            case 3: set(wire, n(h, 0, 6)); break;
+            case 5: set(town, other, len, n(h, 0, 2), t); break;
+            case 8: case 9: set(c, few); break;
+            case 10: set(town, other, n(h, 1, 3), n(h, 0, 20), few); break;
+            case 11: set(n(h, 0, 5)); break;
+            case 12: set(n(h, 0, 2)); break;
+            case 13: chooseBytes(h); break;
+            case 14: set(t); break;
+            case 16: set(t, n(h, 0, 10)); break;
+            case 17: set(town, other, mile, n(h, mile, mile + 1)); break;
+            case 18: set(town, other, n(h, 0, 2)); break;
+            case 19: set(n(h, 0, 11), n(h, 0, 9)); break;
+            case 21: set(n(h, 0, 15), n(h, 0, 3), n(h, 0, 4)); break;
+            case 22: set(town, other, mile, n(h, 0, 9999)); break;
+            case 23: set(n(h, 0, 99999), n(h, 0, 2)); break;
+            default: set(method == 6 || method == 7 ? c : few); break;
         }
+        call = "method " + method + " with " + Arrays.toString(a);
     }
 
-    private int feed(int h) {
+    private void set(int... values) {
+        a = Arrays.copyOf(values, 5);
+    }
+
+    private void chooseBytes(int h) {
         String[] texts = {"hold 9; ", "ways 3; ", "next far", ",short; ", "told 9 ", "strike 0", ";"};
         String text = texts[random.nextInt(texts.length)];
-        long bytes = h == 2 ? random.nextLong() : 0;
+        bytes = h == 2 ? random.nextLong() : 0;
         for (int i = 0; i < text.length(); i++) {
             bytes = bytes << 8 | text.charAt(i);
         }
-        return x.feed(n(h / 2, text.length(), text.length()), bytes);
+        set(n(h / 2, text.length(), text.length()));
     }
 
-    private List<Integer> snapshot() {
-        List<Integer> all = new ArrayList<>();
-        for (int what = 0; what <= 15; what++) {
-            all.add(x.count(what));
+    private int on(TrunkRoom room, int method) {
+        switch (method) {
+            case 0: return room.wire(a[0], a[1], a[2]);
+            case 1: return room.span(a[0], a[1], a[2], a[3]);
+            case 2: return room.hands(a[0], a[1]);
+            case 3: return room.about(a[0], a[1]);
+            case 4: return room.count(a[0]);
+            case 5: return room.book(a[0], a[1], a[2], a[3], a[4]);
+            case 6: return room.cancel(a[0]);
+            case 7: return room.again(a[0]);
+            case 8: return room.told(a[0], a[1]);
+            case 9: return room.way(a[0], a[1]);
+            case 10: return room.ways(a[0], a[1], a[2], a[3], a[4]);
+            case 11: return room.go(a[0]);
+            case 12: return room.wrong(a[0]);
+            case 13: return room.feed(a[0], bytes);
+            case 14: return room.order(a[0]);
+            case 15: return room.fault();
+            case 16: return room.force(a[0], a[1]);
+            case 17: return room.ticket(a[0], a[1], a[2], a[3]);
+            case 18: return room.clocks(a[0], a[1], a[2]);
+            case 19: return room.need(a[0], a[1]);
+            case 20: return room.shifts(a[0]);
+            case 21: return room.beside(a[0], a[1], a[2]);
+            case 22: return room.offer(a[0], a[1], a[2], a[3]);
+            default: return room.plan(a[0], a[1]);
         }
-        for (int c = 0; c < 40; c++) {
-            for (int what = 0; what <= 13; what++) {
-                all.add(x.told(c, what));
-            }
-            all.add(x.way(c, 0));
-        }
-        for (int w = 0; w < 16; w++) {
-            for (int what = 0; what <= 6; what++) {
-                all.add(x.about(w, what));
-            }
-        }
-        for (int what = 0; what <= 10; what++) {
-            all.add(x.force(479, what));
-        }
-        for (int i = -1; i < 9; i++) {
-            all.add(x.shifts(i));
-        }
-        all.add(x.fault());
-        all.add(x.clocks(0, 1, 0));
-        all.add(x.plan(99999, 2));
-        return all;
     }
 }
