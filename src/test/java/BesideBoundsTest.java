@@ -597,6 +597,20 @@ public final class BesideBoundsTest {
             plan 5 * = 2 4 0
             beside 0 2 0 = 0
             """);
+        Script.run("23: next by when they were booked, before what is short", """
+            order 0 'next booked, short;'
+            wire 0 1 10
+            book 0 1 4 0 0
+            book 0 1 9 0 0
+            go 1
+            book 0 1 1 0 0
+            go 6
+            told 1 7 = 4
+            count 14 = 10
+            beside 0 0 0 = 10
+            # by fixed, first, booked it is the same; by numbers too
+            beside 1 0 0 = 10
+            """);
         Script.run("23: a CALL booked NOW has waited nowhere", """
             book 0 1 2 0 0
             go 1

@@ -485,6 +485,13 @@ public final class CallBoundsTest {
             book 0 1 1 0 0
             told 3 10 = 9
             """);
+        Script.run("10: OFFERS join nothing beside sixteen WIRES either", """
+            16x wire 0 1 10
+            4x offer 0 1 10 0
+            order 0 'told 99;'
+            5x book 0 1 1 0 0
+            told 4 10 = 23
+            """);
         Script.run("10: told by the ORDERS of NOW", """
             order 10 'told 50;'
             go 9
@@ -610,6 +617,18 @@ public final class CallBoundsTest {
             ways 0 3 3 0 NONE = 3
             offer 0 3 1 1
             ways 0 3 3 0 NONE = 3
+            """);
+        Script.run("12: behind the last WAY there is none, whatever else was asked before", """
+            wire 0 1 10
+            wire 2 3 10
+            ways 0 1 1 0 0 = 0
+            ways 2 3 1 0 0 = 1
+            ways 1 0 1 0 0 = 0
+            ways 0 1 1 1 0 = NONE
+            ways 0 1 3 1 NONE = NONE
+            ways 2 3 1 1 0 = NONE
+            ways 1 0 1 1 0 = NONE
+            ways 0 2 3 0 NONE = NONE
             """);
         Script.run("12: the most WAYS: five, five and six WIRES in a row", """
             5x wire 0 1 300

@@ -434,6 +434,29 @@ public final class MinuteBoundsTest {
             told 3 11 = 3
             told 2 6 = 1
             """);
+        Script.run("13: a HELD one takes none that is not USABLE, though no CALL has it", """
+            wire 0 1 10
+            wire 1 2 10
+            wire 2 3 10
+            order 0 'ways 3;hold 9;'
+            span 2 0 3 4
+            book 1 2 3 0 0
+            go 1 = 1
+            book 0 3 5 0 0
+            go 2 = 0
+            told 1 11 = 1
+            # minute 3: WIRE 1 is FREE, WIRE 2 is SHUT
+            go 1 = 0
+            told 1 6 = 1
+            told 1 11 = 2
+            about 1 4 = 1
+            about 2 4 = NONE
+            go 1 = 0
+            told 1 11 = 2
+            go 1 = 1
+            told 1 7 = 5
+            told 1 11 = 3
+            """);
         Script.run("13: hold goes by since it last took one", """
             wire 0 1 10
             wire 1 2 10
@@ -554,6 +577,42 @@ public final class MinuteBoundsTest {
             count 14 = 12
             beside 0 0 4 = 1
             """);
+        Script.run("13: a RING of eight, round all TOWNS", """
+            wire 0 1 10
+            wire 1 2 10
+            wire 2 3 10
+            wire 3 4 10
+            wire 4 5 10
+            wire 5 6 10
+            wire 6 7 10
+            wire 7 0 10
+            order 0 'next short; hold 60;'
+            book 0 1 1 0 0
+            book 1 2 2 0 0
+            book 2 3 3 0 0
+            book 3 4 4 0 0
+            book 4 5 5 0 0
+            book 5 6 6 0 0
+            book 6 7 7 0 0
+            book 7 0 8 0 0
+            book 0 2 60 0 0
+            book 1 3 50 0 0
+            book 2 4 40 0 0
+            book 3 5 30 0 0
+            book 4 6 20 0 0
+            book 5 7 15 0 0
+            book 6 0 14 0 0
+            book 7 1 13 0 0
+            go 9 = 8
+            count 4 = 8
+            count 9 = 0
+            go 1 = 1
+            count 9 = 1
+            told 8 6 = 0
+            told 9 6 = 1
+            told 15 6 = 2
+            way 15 * = 7 0 NONE
+            """);
         Script.run("13: two RINGS in one MINUTE", """
             wire 0 1 10
             wire 1 2 10
@@ -651,6 +710,18 @@ public final class MinuteBoundsTest {
             wrong * = 10 5 7
             cancel 7 = 1
             wrong * = 10 5 7
+            """);
+        Script.run("14: a CUT one is as wrong as it was when it talked", """
+            wire 0 1 10
+            span 0 1 6 6
+            book 0 1 4 0 0
+            book 0 1 9 0 0
+            go 6 = 2
+            # told 3, WAITED 4
+            wrong * = 1 1 2
+            go 1
+            told 1 6 = 4
+            wrong * = 1 1 2
             """);
         Script.run("14: no MINUTE waited for the most told", """
             order 0 'told 99;'

@@ -26,6 +26,7 @@ public final class OrderBoundsTest {
         strikes();
         keys();
         clauses();
+        sixtyClauses();
         lengths();
         fault();
         force();
@@ -502,6 +503,24 @@ public final class OrderBoundsTest {
         faulty("hold 1;".repeat(9) + "hold 1!" + "hold 1;", 1, 69);
     }
 
+    /** As many clauses as there may be at all: the tenth of each ORDER counts. */
+    private static void sixtyClauses() {
+        String nine = "hold 1;".repeat(9);
+        String five = "order 0 '" + nine + "told 1;' = 0\norder 0 '" + nine + "grace 2;' = 1\norder 0 '" + nine
+                + "back 3;' = 2\norder 0 '" + nine + "ways 3;' = 3\norder 0 '" + nine + "charge 4 to 900;' = 4\n";
+        Script.run("16: six ORDERS of ten clauses", five + "order 0 '" + nine + "night 0 to 479 by 6;' = 5\n" + """
+            force 0 * = 3 1 2 1 3 3 0 1 2 NONE NONE
+            force 0 120 = 4
+            force 0 1000 = 6
+            force 479 1000 = 6
+            """);
+        Script.run("16: six ORDERS of ten clauses, the last of them a strike", five + "order 0 '" + nine
+                + "strike 0;' = 5\n" + """
+            force 0 * = 3 1 2 6 3 3 0 1 2 NONE NONE
+            force 0 120 = 4
+            """);
+    }
+
     private static void lengths() {
         String blanks = " ".repeat(153);
         sound(blanks + "hold 5;", 1, 5);
@@ -556,6 +575,22 @@ public final class OrderBoundsTest {
             order 0 'hold' = FULL
             fault = NONE
             count 13 = 4
+            """);
+        Script.run("17: of what had a FAULT nothing stays behind", """
+            order 0 'hold 7;' = 0
+            order 0 'told 8;strike 0;!' = -11
+            order 0 'told 9;' = 1
+            force 0 1 = 7
+            force 0 3 = 9
+            order 0 'told 8;charge 1 to 900;!' = -11
+            order 0 'told 7;' = 2
+            force 0 100 = 10
+            order 0 'told 8;night 0 to 479 by 1;!' = -11
+            order 0 'told 6;' = 3
+            force 0 1000 = 100
+            order 0 'told 8;next far;!' = -11
+            order 0 'told 5;' = 4
+            force 0 * = 2 7 5 5 50 3 0 1 2 NONE NONE
             """);
         Script.run("17: what stood in THE TEXT before does not matter", """
             order 0 'hold 60;hold 60;hold 60;' = 0
