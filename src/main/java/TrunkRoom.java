@@ -479,8 +479,9 @@ public final class TrunkRoom {
 
     /** The WIRES, and behind them in places of their own the OFFERS; with the WAYS by both. */
     private static final class Net {
-        // no more WAYS than rows of one, two or three of the lines (one of them can be gone two ways)
-        private static final int POOL = 2 * LINES + LINES * (LINES - 1) + LINES * (LINES - 1) * (LINES - 2);
+        // no more WAYS of both directions than there can be: each line, two lines in a row, and three: of these any
+        // line is the middle one, and the others part into those at its one end and those at its other one
+        private static final int POOL = 2 * LINES + LINES * (LINES - 1) + 2 * LINES * ((LINES - 1) / 2) * (LINES / 2);
 
         final int[] one = new int[LINES];
         final int[] two = new int[LINES];

@@ -611,6 +611,19 @@ public final class BesideBoundsTest {
             # by fixed, first, booked it is the same; by numbers too
             beside 1 0 0 = 10
             """);
+        Script.run("23: next by when they were booked, not by how they fared", """
+            order 0 'next booked, short;'
+            order 0 'next short;'
+            wire 0 1 10
+            book 0 1 4 0 0
+            book 0 1 9 0 0
+            go 1
+            book 0 1 1 0 0
+            go 6
+            count 14 = 8
+            beside 0 0 0 = 8
+            beside 2 0 0 = 10
+            """);
         Script.run("23: a CALL booked NOW has waited nowhere", """
             book 0 1 2 0 0
             go 1

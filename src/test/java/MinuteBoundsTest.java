@@ -181,6 +181,16 @@ public final class MinuteBoundsTest {
             told 1 6 = 2
             told 3 6 = 2
             """);
+        Script.run("13: of forty the last one goes ahead, if it is short by one MINUTE", """
+            wire 0 1 10
+            order 0 'next short;'
+            39x book 0 1 2 0 0
+            book 0 1 1 0 0 = 39
+            go 1 = 1
+            told 39 6 = 2
+            go 1 = 1
+            told 0 6 = 2
+            """);
         Script.run("13: far: the MILES of the first WAY, all looked at as USABLE", """
             wire 0 1 100
             wire 0 1 200
@@ -492,6 +502,21 @@ public final class MinuteBoundsTest {
             go 1 = 1
             told 1 7 = 3
             """);
+        Script.run("13: HELD by at most as many WIRES as ways tells", """
+            wire 0 1 10
+            wire 1 2 10
+            wire 2 3 10
+            order 0 'hold 60;'
+            book 2 3 60 0 0
+            go 1
+            book 0 3 5 0 0
+            go 3 = 0
+            told 1 6 = 0
+            order 4 'ways 3;'
+            go 1 = 0
+            told 1 6 = 1
+            told 1 11 = 2
+            """);
         Script.run("13: a WAY that is FREE goes ahead of one to be HELD that is shorter", """
             wire 0 1 10
             wire 1 2 10
@@ -634,6 +659,7 @@ public final class MinuteBoundsTest {
             told 2 6 = 0
             told 3 6 = 0
             """);
+        mostRings();
         Script.run("13: one that waits for a TALKING one is in no RING", """
             wire 0 1 10
             wire 1 2 10
@@ -644,6 +670,42 @@ public final class MinuteBoundsTest {
             go 50
             count 9 = 0
             told 1 6 = 1
+            """);
+    }
+
+    /** All sixteen WIRES are held, each by another CALL: eight RINGS of two, all of them in one MINUTE. */
+    private static void mostRings() {
+        StringBuilder b = new StringBuilder("order 0 'hold 60;'\n");
+        for (int far = 1; far <= 2; far++) {
+            for (int t = 0; t < 8; t++) {
+                b.append("wire ").append(t).append(' ').append((t + far) % 8).append(" 10\n");
+            }
+        }
+        for (int t = 0; t < 8; t++) {
+            b.append("book ").append(t).append(' ').append((t + 2) % 8).append(" 2 0 0\n");
+        }
+        b.append("go 1 = 8\n");
+        for (int t = 0; t < 8; t++) {
+            b.append("book ").append(t).append(' ').append((t + 3) % 8).append(" 5 0 0\n");
+        }
+        b.append("go 1 = 0\ncount 4 = 8\n");
+        for (int t = 0; t < 8; t++) {
+            b.append("book ").append((t + 3) % 8).append(' ').append(t).append(" 5 1 0\n");
+        }
+        Script.run("13: eight RINGS in one MINUTE", b + """
+            go 1 = 0
+            count 4 = 16
+            count 9 = 0
+            go 1 = 8
+            count 9 = 8
+            count 3 = 8
+            told 8 6 = 0
+            told 15 6 = 0
+            told 16 6 = 2
+            way 16 * = 9 0 NONE
+            told 23 6 = 2
+            way 23 * = 8 7 NONE
+            beside 0 0 4 = 8
             """);
     }
 
@@ -809,6 +871,18 @@ public final class MinuteBoundsTest {
             told 1 12 = 7
             told 2 12 = 9
             told 3 12 = 9
+            """);
+        Script.run("10: of the WAY on which it talked, not of the first one", """
+            wire 0 1 10
+            wire 0 1 50
+            order 0 'charge 5 to 10; charge 7 to 50;'
+            2x book 0 1 1 0 0
+            go 2 = 2
+            told 0 12 = 5
+            told 1 13 = 50
+            told 1 12 = 7
+            count 15 = 12
+            beside 0 0 3 = 12
             """);
         Script.run("10: more MILES than any clause has: 10", """
             wire 0 1 300

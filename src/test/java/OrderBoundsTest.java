@@ -467,6 +467,8 @@ public final class OrderBoundsTest {
             force 2 * = 2 0 5 6 50 2 4 0 NONE NONE NONE
             """);
         sound("next far;next far;");
+        sound("grace 0;next far;", 6, 4);
+        sound("grace 60;next far,short;", 7, 3);
         faulty("next fixed,first,booked,short,far,fixed;", 4, 34);
         faulty("next fixed,first,booked,short,far,far", 4, 34);
         faulty("next fixed,first,booked,short,far,", 1, 34);
