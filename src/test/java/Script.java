@@ -123,7 +123,7 @@ final class Script {
 
     static void fails(String name, String what) {
         wrong++;
-        System.out.println(name + ": " + what);
+        System.out.println(name + " | " + what);
     }
 
     // ---- lines
